@@ -15,6 +15,14 @@ final class Checks {
         due(what + " (bits)", Float.floatToIntBits(got), Float.floatToIntBits(want));
     }
 
+    void dueText(String what, String got, String want) {
+        made++;
+        if (!got.equals(want)) {
+            wrong++;
+            System.out.println(what + " answered\n  " + got + "\n  due is\n  " + want);
+        }
+    }
+
     void holds(String what, boolean is) {
         due(what, is ? 1 : 0, 1);
     }

@@ -42,8 +42,11 @@ public final class ModelTest {
     private void run(int run) {
         field = new TentFields();
         slow = new SlowField();
-        style = run % 4;
+        style = run % 5;
         calls = 0;
+        if (style == 4) {
+            crowd();
+        }
         while (calls < CALLS && checks.wrong() == 0) {
             if (below(10) < 5) {
                 act();
@@ -54,6 +57,20 @@ public final class ModelTest {
         mostPlots = Math.max(mostPlots, slow.plots().size());
         if (checks.wrong() != 0) {
             System.out.println("run " + run + ":" + told);
+        }
+    }
+
+    /** As many plots as there can be, sometimes without the last campers, so that others may come. */
+    private void crowd() {
+        int[] corners = {0, 0, 32, 0, 0, 32, 32, 32, 16, 0, 48, 0, 16, 32, 48, 32,
+            0, 16, 32, 16, 0, 48, 32, 48, 16, 16, 48, 16, 16, 48};
+        due("come(0,0)", field.come(0, 0), slow.come(0, 0));
+        int newcomers = 15 - below(2) * below(8);
+        for (int index = 0; index < newcomers; index++) {
+            int x = corners[2 * index];
+            int y = corners[2 * index + 1];
+            due("moveTent(0," + x + "," + y + ")", field.moveTent(0, x, y), slow.moveTent(0, x, y));
+            due("come(" + x + "," + (y + 1) + ")", field.come(x, y + 1), slow.come(x, y + 1));
         }
     }
 
@@ -153,7 +170,7 @@ public final class ModelTest {
                 due("song(" + song + "," + what + ")", field.song(song, what), slow.song(song, what));
             }
             case 5, 6 -> {
-                int step = below(9) == 0 ? wild() : below(6);
+                int step = below(9) == 0 ? wild() : below(style == 4 ? 20 : 6);
                 int which = what & 3;
                 due("way(" + camper + "," + x + "," + y + "," + step + "," + which + ")",
                         field.way(camper, x, y, step, which), slow.way(camper, x, y, step, which));
