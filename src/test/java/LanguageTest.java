@@ -30,6 +30,7 @@ public final class LanguageTest {
         words();
         lengths();
         room();
+        noCallThrows();
         c.end("LanguageTest");
     }
 
@@ -151,5 +152,51 @@ public final class LanguageTest {
             sum += f.type("1,1".charAt(character));
         }
         return sum + f.comeAll() + f.clearText();
+    }
+
+    /** Rule 7: any arguments in any state, and behind the 512th call too, where only the answers are free. */
+    private static void noCallThrows() {
+        int[] wild = {-1, 64, 100, Integer.MAX_VALUE, Integer.MIN_VALUE, 65536 + 5, -64, 4096};
+        long seed = 11;
+        for (int run = 0; run < 20; run++) {
+            TentFields f = new TentFields();
+            int[] v = new int[5];
+            int sum = 0;
+            for (int call = 0; call < 4000; call++) {
+                for (int index = 0; index < v.length; index++) {
+                    seed = seed * 6364136223846793005L + 1442695040888963407L;
+                    int drawn = (int) (seed >>> 33);
+                    v[index] = drawn % 12 == 0 ? wild[drawn / 12 % wild.length] : drawn % 40 == 1 ? (int) seed : drawn / 40 % 64;
+                }
+                sum += callOf(f, call * 7 % 23 + run, v);
+            }
+            c.holds("no call of run " + run + " throws", sum != 1);
+        }
+    }
+
+    private static int callOf(TentFields f, int method, int[] v) {
+        return switch (method % 23) {
+            case 0, 21 -> f.come(v[0], v[1]);
+            case 1 -> f.comeAll();
+            case 2 -> v[3] % 3 == 0 ? f.leave(v[0] % 17) : f.undo();
+            case 3 -> f.moveTent(v[0] % 17, v[1], v[2]);
+            case 4 -> f.handOver(v[0], v[1], v[2] % 17);
+            case 5 -> f.lay(v[0], v[1], v[2]);
+            case 6 -> f.carry(v[0] % 21, v[1], v[2]);
+            case 7, 22 -> f.type("0123456,;,;,;,;x".charAt(v[0] & 15));
+            case 8 -> v[0] % 5 == 0 ? f.clearText() : f.type((char) v[1]);
+            case 9 -> f.undo();
+            case 10 -> f.keep();
+            case 11 -> f.restore();
+            case 12 -> f.plot(v[0], v[1], v[2] % 8);
+            case 13 -> f.camper(v[0] % 17, v[1] % 8);
+            case 14 -> f.plotOf(v[0] % 17, v[1], v[2] % 4);
+            case 15 -> f.song(v[0], v[1] % 5);
+            case 16 -> f.way(v[0] % 17, v[1], v[2], v[3], v[4] % 4);
+            case 17 -> f.would(v[0], v[1], v[2] % 4);
+            case 18 -> f.loudest();
+            case 19 -> (int) f.share(v[0]);
+            default -> f.count(v[0] % 13);
+        };
     }
 }

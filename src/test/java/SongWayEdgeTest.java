@@ -349,6 +349,12 @@ public final class SongWayEdgeTest extends Scenes {
         TentFields f = with(48, 0, 56, 24);
         isWay("not from the middle", f, 0, 45, 56, "0:(48,0) 0:(32,0) 0:(32,32)");
         isWay("not from the corner", f, 0, 46, 17, "0:(48,0) 0:(32,0)");
+        f = with(56, 24, 48, 16);
+        isWay("0 if it is not outside, no less", f, 0, 1, 16, "0:(56,16) 0:(32,32) 0:(0,0)");
+        f = with(40, 56, 40, 40);
+        isWay("0 if it is not outside, no more", f, 1, 55, 32, "1:(32,32) 0:(48,32)");
+        f = with(16, 48, 16, 56);
+        isWay("x and y count alike", f, 1, 27, 39, "1:(16,56) 0:(24,48) 0:(16,32)");
         f = with(40, 40, 40, 24, 16, 40, 40, 52);
         isLike("four campers", f, "0:(0,0)2 0:(32,32)4 0:(48,32)3 1:(32,0)2 2:(0,32)2 3:(32,48)4");
         isWay("to the right and up", f, 3, 60, 0, "3:(32,48) 0:(48,32) 1:(32,0)");

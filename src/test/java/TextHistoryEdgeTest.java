@@ -613,5 +613,15 @@ public final class TextHistoryEdgeTest extends Scenes {
         c.due("undo", f.undo(), 3);
         c.due("songs so far", f.count(3), 19);
         c.due("room again", f.lay(5, 5, 5), 19);
+        f = new TentFields();
+        f.lay(1, 1, 11);
+        f.keep();
+        f.undo();
+        f.lay(2, 2, 22);
+        c.due("restore", f.restore(), 0);
+        c.due("the song of the snapshot", f.song(0, 2), bits(1.1f));
+        c.due("undo", f.undo(), 1);
+        c.due("the other song of this number", f.song(0, 2), bits(2.2f));
+        c.due("its point", f.song(0, 0) * 64 + f.song(0, 1), 130);
     }
 }
