@@ -686,7 +686,10 @@ public final class TentFields {
 
         void remove(int plot) {
             int last = size - 1;
-            put(plot, x0s.at(last), y0s.at(last), depths.at(last), owners.at(last));
+            x0s.put(plot, x0s.at(last));
+            y0s.put(plot, y0s.at(last));
+            depths.put(plot, depths.at(last));
+            owners.put(plot, owners.at(last));
             size = last;
         }
 
