@@ -25,6 +25,8 @@ public final class LeavingEdgeTest extends Scenes {
         handOverToWhoHasIt();
         handOverPutsTogetherOnce();
         handOverToAnUnlikeHalf();
+        handOverToCamper0();
+        plotsPutTogetherAreGone();
         campersWithMoreThanOnePlot();
         c.end("LeavingEdgeTest");
     }
@@ -449,5 +451,40 @@ public final class LeavingEdgeTest extends Scenes {
         c.due("two plots are", f.count(6), 2);
         c.due("leave", f.leave(0), 1);
         c.due("who has left has none", f.count(6), f.camper(1, 2) > 1 ? 1 : 0);
+    }
+
+    // ---- "if its other half is a plot of the same camper": it is none, whoever the camper is
+
+    private static void handOverToCamper0() {
+        TentFields f = cut();
+        c.due("the other half is halved: to 1", f.handOver(0, 40, 1), 0);
+        isLike("the other half is halved: to 1", f, "0:(0,0)3 0:(32,0)1 1:(0,32)2 1:(16,0)3");
+        c.due("the other half is halved: back to 0", f.handOver(0, 40, 0), 1);
+        isLike("the other half is halved: back to 0", f, "0:(0,0)3 0:(0,32)2 0:(32,0)1 1:(16,0)3");
+        hasPutTogether("the other half is halved", f, 0, 0);
+    }
+
+    // ---- "both are one plot again": neither of the two is told any more
+
+    private static void plotsPutTogetherAreGone() {
+        TentFields f = quarters();
+        c.due("one again: leave(3)", f.leave(3), 3);
+        c.due("one again: beside (0,0)", f.plot(0, 0, 6), 2);
+        c.due("one again: beside (0,32)", f.plot(0, 63, 6), 2);
+        c.due("one again: beside (32,0)", f.plot(63, 63, 6), 2);
+
+        f = with(16, 0, 16, 16, 40, 0);
+        c.due("four put together: leave(0)", f.leave(0), 2);
+        isLike("four put together", f, "1:(0,0)1 2:(32,0)1");
+        hasPutTogether("four put together", f, 4, 0);
+        c.due("four put together: come(56,24)", f.come(56, 24), 3);
+        c.due("four put together: come(48,32)", f.come(48, 32), 4);
+        isLike("two halved again", f, "1:(0,0)1 2:(32,0)3 2:(32,32)3 3:(48,0)3 4:(48,32)3");
+        int[][] way = {{1, 0, 0}, {2, 32, 32}, {4, 48, 32}, {NONE, NONE, NONE}};
+        for (int step = 0; step < way.length; step++) {
+            for (int what = 0; what < 3; what++) {
+                c.due("two halved again: step " + step + ", " + what, f.way(1, 48, 32, step, what), way[step][what]);
+            }
+        }
     }
 }

@@ -27,6 +27,8 @@ public final class TextHistoryEdgeTest extends Scenes {
         oneSnapshot();
         restoreIsAnAct();
         numbersComeAgainWithTheState();
+        whatUndoTookAwayIsGone();
+        clearedCharactersAreGone();
         c.end("TextHistoryEdgeTest");
     }
 
@@ -623,5 +625,57 @@ public final class TextHistoryEdgeTest extends Scenes {
         c.due("undo", f.undo(), 1);
         c.due("the other song of this number", f.song(0, 2), bits(2.2f));
         c.due("its point", f.song(0, 0) * 64 + f.song(0, 1), 130);
+    }
+
+    // ---- "undo() removes and restores the latest one": of what came later nothing is told any more
+
+    private static void whatUndoTookAwayIsGone() {
+        TentFields f = with(0, 0, 63, 0);
+        c.due("come is undone", f.undo(), 1);
+        c.due("a camper who was undone: camper", f.camper(1, 0), UNKNOWN);
+        c.due("a camper who was undone: leave", f.leave(1), UNKNOWN);
+        c.due("a camper who was undone: moveTent", f.moveTent(1, 63, 0), UNKNOWN);
+        c.due("a camper who was undone: handOver", f.handOver(63, 63, 1), UNKNOWN);
+        c.due("a camper who was undone: plotOf", f.plotOf(1, 0, 0), UNKNOWN);
+        c.due("a camper who was undone: way", f.way(1, 0, 0, 0, 0), UNKNOWN);
+        c.dueFloat("a camper who was undone: share", f.share(1), -1.0f);
+
+        f = with(0, 0);
+        f.lay(1, 1, 10);
+        f.lay(2, 2, 20);
+        c.due("lay is undone", f.undo(), 2);
+        c.due("a song that was undone: song", f.song(1, 0), UNKNOWN);
+        c.due("a song that was undone: carry", f.carry(1, 3, 3), UNKNOWN);
+        c.due("a song that was undone: songs of the camper", f.camper(0, 4), 1);
+        c.due("a song that was undone: loudness", f.camper(0, 6), bits(1.0f));
+        c.due("a song that was undone: would", f.would(63, 63, 1), 0);
+        c.due("a song that was undone: would", f.would(3, 3, 1), 0);
+
+        f = with(0, 24, 0, 16);
+        c.due("come is undone", f.undo(), 1);
+        c.due("moveTent", f.moveTent(0, 48, 40), 0);
+        c.due("come(0,24)", f.come(0, 24), 1);
+        c.due("come(0,8)", f.come(0, 8), 2);
+        isLike("other plots than those undone", f, "0:(32,0)1 1:(0,16)4 1:(0,32)2 1:(16,0)3 2:(0,0)4");
+        c.due("neighbours of 0", f.camper(0, 5), 1);
+        c.due("neighbours of 1", f.camper(1, 5), 2);
+        c.due("neighbours of 2", f.camper(2, 5), 1);
+    }
+
+    // ---- clearText: "Empties the text."
+
+    private static void clearedCharactersAreGone() {
+        TentFields f = typed("11,23;45,6");
+        write(f, "7,2");
+        c.due("a shorter text", f.comeAll(), 1);
+        c.due("its x", f.camper(0, 0), 7);
+        c.due("its y", f.camper(0, 1), 2);
+        f = typed("1,23");
+        write(f, "1,2");
+        c.due("one character less", f.comeAll(), 1);
+        c.due("its y", f.camper(0, 1), 2);
+        f = typed("1,2;3,4");
+        write(f, "1,2;");
+        c.due("the old characters are not behind it", f.comeAll(), -104);
     }
 }
